@@ -152,6 +152,11 @@ public final class TimesTest {
         ZoneClock zero = Check.clockWith(1, "+840 120 M1.1.4/840 M12.5.0/0");
         Check.due(0L, "a beginning at 0", () -> zero.change(1, 0L, true));
 
+        // 31 December 1969 was a Wednesday, and is still LOCAL time at 0; its year has no rules.
+        ZoneClock before = Check.clockWith(1, "-840 60 M12.5.3/1439 M6.1.0/60");
+        Check.due(at(1970, 6, 7, 14, 0), "none of 1969", () -> before.change(1, 0L, false));
+        Check.due(-1L, "none of 1969, back", () -> before.change(1, 15 * HOUR, true));
+
         // 31 December 2299 is a Sunday.
         ZoneClock late = Check.clockWith(1, "-840 120 M6.1.0/0 M12.5.0/1439");
         long behindTime = at(2300, 1, 1, 11, 59);

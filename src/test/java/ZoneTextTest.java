@@ -15,6 +15,7 @@ public final class ZoneTextTest {
         wrongZoneChangesNothing();
         placeIsOfTheLatestZone();
         zonesAreApart();
+        plainTextBehindOneWithSummer();
         spoiltTexts();
         Check.done();
     }
@@ -122,6 +123,18 @@ public final class ZoneTextTest {
             Check.due(z, "field 7 of zone " + z, () -> clock.field(z, 0L, 7));
             Check.due(1, "month of the first beginning in zone " + z,
                     () -> clock.field(z, clock.change(z, 0L, false), 4) == z + 1 ? 1 : 0);
+        }
+    }
+
+    private static void plainTextBehindOneWithSummer() {
+        ZoneClock clock = Check.clockWith(0, Check.BERLIN);
+        long summer = 1720000000000L;
+        for (int i = 0; i < 2; i++) {
+            int z = i;
+            Check.tell(clock, "+5");
+            Check.due("told", "zone " + z, () -> Check.zone(clock, z));
+            Check.due(5, "field 7 of zone " + z, () -> clock.field(z, summer, 7));
+            Check.due(-1L, "change of zone " + z, () -> clock.change(z, summer, false));
         }
     }
 
