@@ -32,7 +32,7 @@ public final class NewObjectTest {
     private static void tapeIsEmptyAndNoPlaceIsTold() {
         ZoneClock clock = new ZoneClock();
         Check.due(-1, "new place", clock::place);
-        Check.dueArgument("new end(1)", () -> clock.end(1));
+        Check.dueRefused("new end(1)", () -> clock.end(1));
         Check.due(0, "new end(0)", () -> clock.end(0));
         Check.due(20, "new feed", () -> clock.feed(0, 0, 0, 0, 0));
     }
@@ -42,7 +42,7 @@ public final class NewObjectTest {
         Check.tell(told, "x");
         ZoneClock fresh = new ZoneClock();
         Check.due(0L, "local of the other object", () -> fresh.local(0, 0L));
-        Check.dueArgument("tape of the other object", () -> fresh.end(1));
+        Check.dueRefused("tape of the other object", () -> fresh.end(1));
     }
 
     private static void faceIsTheDocuments() {
