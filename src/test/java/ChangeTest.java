@@ -28,7 +28,8 @@ public final class ChangeTest {
         Check.due(end, "behind the beginning itself", () -> clock.change(1, begin, false));
         Check.due(end, "behind the ms before the end", () -> clock.change(1, end - 1, false));
         Check.due(Check.at(2025, 3, 30, 1, 0), "behind the end itself", () -> clock.change(1, end, false));
-        Check.due(Check.at(2025, 3, 30, 1, 0), "behind the year", () -> clock.change(1, Check.at(2025, 1, 1, 0, 0), false));
+        Check.due(Check.at(2025, 3, 30, 1, 0), "behind the year",
+                () -> clock.change(1, Check.at(2025, 1, 1, 0, 0), false));
     }
 
     // "back: the last one not behind t"
@@ -36,7 +37,8 @@ public final class ChangeTest {
         ZoneClock clock = Check.clockWith(1, Check.BERLIN);
         long begin = Check.at(2024, 3, 31, 1, 0);
         long end = Check.at(2024, 10, 27, 1, 0);
-        Check.due(Check.at(2023, 10, 29, 1, 0), "back from before the beginning", () -> clock.change(1, begin - 1, true));
+        Check.due(Check.at(2023, 10, 29, 1, 0), "back from before the beginning",
+                () -> clock.change(1, begin - 1, true));
         Check.due(begin, "back from the beginning itself", () -> clock.change(1, begin, true));
         Check.due(begin, "back from behind it", () -> clock.change(1, begin + 1, true));
         Check.due(begin, "back from before the end", () -> clock.change(1, end - 1, true));
@@ -168,7 +170,8 @@ public final class ChangeTest {
         long newYear2022 = Check.at(2022, 1, 1, 0, 0);
         Check.due(Check.at(2020, 3, 2, 2, 0), "back to the end in 2020", () -> clock.change(5, newYear2021, true));
         Check.due(Check.at(2021, 3, 1, 2, 0), "the end in 2021", () -> clock.change(5, newYear2021, false));
-        Check.due(Check.at(2021, 3, 7, 2, 0), "back to the beginning in 2021", () -> clock.change(5, newYear2022, true));
+        Check.due(Check.at(2021, 3, 7, 2, 0), "back to the beginning in 2021",
+                () -> clock.change(5, newYear2022, true));
         Check.due(Check.at(2022, 3, 6, 2, 0), "the beginning in 2022", () -> clock.change(5, newYear2022, false));
     }
 

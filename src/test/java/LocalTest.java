@@ -37,7 +37,8 @@ public final class LocalTest {
     private static void localMayLieOutsideOfTime() {
         Check.due(-14 * HOUR, "before 1970", () -> Check.clockWith(0, "-840").local(0, 0L));
         Check.due(-1L, "one before 1970", () -> Check.clockWith(0, "-1").local(0, 59999L));
-        Check.due(Check.LAST_TIME + 14 * HOUR, "behind 2299", () -> Check.clockWith(0, "+840").local(0, Check.LAST_TIME));
+        Check.due(Check.LAST_TIME + 14 * HOUR, "behind 2299",
+                () -> Check.clockWith(0, "+840").local(0, Check.LAST_TIME));
         // Summer since the first minute of LOCAL 1970 (a Thursday), 14 hours before universal 1970.
         ZoneClock early = Check.clockWith(0, "+840 120 M1.1.4/0 M12.5.0/0");
         Check.due(16 * HOUR, "in summer since before 1970", () -> early.local(0, 0L));

@@ -36,8 +36,10 @@ public final class UniversalTest {
     private static void onlyOneIsFirstAndLast() {
         ZoneClock clock = Check.clockWith(1, Check.BERLIN);
         for (boolean later : new boolean[] {false, true}) {
-            Check.due(Check.at(2023, 12, 31, 23, 0), "winter", () -> clock.universal(1, Check.at(2024, 1, 1, 0, 0), later));
-            Check.due(Check.at(2024, 6, 30, 22, 0), "summer", () -> clock.universal(1, Check.at(2024, 7, 1, 0, 0), later));
+            Check.due(Check.at(2023, 12, 31, 23, 0), "winter",
+                    () -> clock.universal(1, Check.at(2024, 1, 1, 0, 0), later));
+            Check.due(Check.at(2024, 6, 30, 22, 0), "summer",
+                    () -> clock.universal(1, Check.at(2024, 7, 1, 0, 0), later));
             Check.due(12345L, "no summer", () -> clock.universal(0, 12345L, later));
         }
     }

@@ -43,7 +43,8 @@ public final class ZoneTest {
     // "What is thrown, in this order"
     private static void zoneOutOfRangeIsRefusedBeforeTheTextIsRead() {
         for (int z : NO_ZONES) {
-            Witness.dueRefused(Check.REFUSED, "zone(" + z + ") of a broken text", "+12x", clock -> Check.zone(clock, z));
+            Witness.dueRefused(Check.REFUSED, "zone(" + z + ") of a broken text", "+12x",
+                    clock -> Check.zone(clock, z));
             Witness.dueRefused(Check.REFUSED, "zone(" + z + ") of nothing", "", clock -> Check.zone(clock, z));
         }
     }

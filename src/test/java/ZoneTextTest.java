@@ -1,13 +1,5 @@
-import java.util.Random;
-import java.util.regex.Matcher;
-import java.util.regex.Pattern;
-
 /** Promises 4 and 10: which texts are broken, and the PLACE that is told; a method for each sentence and edge. */
 public final class ZoneTextTest {
-    private static final String RULE = "M([1-9]|1[0-2])\\.[1-5]\\.[0-6]/(0|[1-9]\\d{0,2}|1[0-3]\\d\\d|14[0-3]\\d)";
-    private static final Pattern TEXT = Pattern.compile("[+-](0|[1-9]\\d?|[1-7]\\d\\d|8[0-3]\\d|840)"
-            + "( +([1-9]\\d?|1[01]\\d|120) +" + RULE + " +" + RULE + ")?");
-
     public static void main(String[] args) {
         wholeTexts();
         offsetIsASignAndAtMost840();
@@ -25,7 +17,6 @@ public final class ZoneTextTest {
         numberNeedsADigit();
         bytesNextToTheRightOnes();
         firstFaultIsTold();
-        spoiltTexts();
         Check.done();
     }
 
@@ -130,8 +121,9 @@ public final class ZoneTextTest {
             ZoneClock second = Check.clockWith(0, "+0 60 M12.1.0/0 M6.1.0/" + minute);
             Check.due(day + (minute - 60) * Check.MINUTE, "end at " + minute, () -> second.change(0, 0L, false));
         }
-        dueOutOfRange("+0 60 M6.1.0/{} M12.1.0/0", "1440", "1441", "1449", "1500", "1999", "2000", "9999", "10000", "14390");
-        dueOutOfRange("+0 60 M12.1.0/0 M6.1.0/{}", "1440", "1441", "1449", "1500", "1999", "2000", "9999", "10000", "14390");
+        String[] tooMany = {"1440", "1441", "1449", "1500", "1999", "2000", "9999", "10000", "14390"};
+        dueOutOfRange("+0 60 M6.1.0/{} M12.1.0/0", tooMany);
+        dueOutOfRange("+0 60 M12.1.0/0 M6.1.0/{}", tooMany);
         dueBroken(14, "+60 60 M1.1.0/-0 M2.1.0/0", "+60 60 M1.1.0/-1 M2.1.0/0");
     }
 
@@ -216,14 +208,6 @@ public final class ZoneTextTest {
     private static void everyMarkStandsWhereItMust() {
         String text = "+60 60 M1.1.0/0 M2.1.0/0";
         for (int place : new int[] {0, 3, 6, 7, 9, 11, 13, 15, 16, 18, 20, 22}) {
-            for (char other : "?x,:;m-+ M./0\0\u00ff".toCharArray()) {
-                StringBuilder changed = new StringBuilder(text);
-                changed.setCharAt(place, other);
-                int due = placeIn(changed.toString());
-                if (due >= 0) {
-                    dueBroken(due, changed.toString());
-                }
-            }
             dueBroken(place, new StringBuilder(text).replace(place, place + 1, "?").toString());
             dueBroken(place, new StringBuilder(text).insert(place, '?').toString());
         }
@@ -265,90 +249,5 @@ public final class ZoneTextTest {
         dueBroken(12, "+60 60 M1.1.7/1440 M2.1.0/0");
         dueBroken(14, "+60 60 M1.1.6/1440 M0.1.0/0");
         dueBroken(20, "+60 60 M1.1.6/1439 M0.6.0/0");
-    }
-
-    /** Whole texts with a byte or two changed, put in or left out, against a pattern of all texts. */
-    private static void spoiltTexts() {
-        Random random = new Random(11);
-        for (int i = 0; i < 40000; i++) {
-            StringBuilder text = new StringBuilder(anyText(random));
-            for (int n = random.nextInt(3); n > 0; n--) {
-                spoil(text, random);
-            }
-            String told = text.toString();
-            int place = placeIn(told);
-            ZoneClock clock = new ZoneClock();
-            Check.tell(clock, told);
-            String want = place < 0 ? "told" : Check.BROKEN;
-            Check.due(want, "zone of '" + told + "'", () -> Check.zone(clock, 0));
-            Check.due(place, "place of '" + told + "'", clock::place);
-        }
-    }
-
-    private static String anyText(Random random) {
-        String sign = random.nextBoolean() ? "+" : "-";
-        String text = sign + random.nextInt(850);
-        if (random.nextInt(8) == 0) {
-            return text;
-        }
-        return text + blanks(random) + random.nextInt(123) + blanks(random) + anyRule(random)
-                + blanks(random) + anyRule(random);
-    }
-
-    private static String blanks(Random random) {
-        return " ".repeat(1 + random.nextInt(4) / 3);
-    }
-
-    private static String anyRule(Random random) {
-        int minute = random.nextBoolean() ? random.nextInt(200) : random.nextInt(1450);
-        int month = random.nextInt(40) == 0 ? 13 : 1 + random.nextInt(12);
-        int week = random.nextInt(40) == 0 ? 6 : 1 + random.nextInt(5);
-        return "M" + month + "." + week + "." + random.nextInt(7) + "/" + minute;
-    }
-
-    private static void spoil(StringBuilder text, Random random) {
-        String bytes = "0123456789 +-M./x\u0000\u00ff";
-        char c = bytes.charAt(random.nextInt(bytes.length()));
-        int at = random.nextInt(text.length() + 1);
-        int kind = random.nextInt(4);
-        if (kind == 0 || at == text.length()) {
-            text.insert(at, c);
-        } else if (kind == 1) {
-            text.setCharAt(at, c);
-        } else if (kind == 2) {
-            text.deleteCharAt(at);
-        } else {
-            text.setLength(at);
-        }
-    }
-
-    /** -1 of a whole text; else the end of the longest front that a whole text could have. */
-    private static int placeIn(String text) {
-        if (TEXT.matcher(text).matches()) {
-            return -1;
-        }
-        int length = 0;
-        while (length < text.length() && mayGoOn(text.substring(0, length + 1))) {
-            length++;
-        }
-        return length < text.length() ? startOfTooLarge(text, length) : length;
-    }
-
-    private static boolean mayGoOn(String front) {
-        Matcher matcher = TEXT.matcher(front);
-        return matcher.matches() || matcher.hitEnd();
-    }
-
-    /** A digit that can't stand behind digits has made the number too large, but behind a 0 in front. */
-    private static int startOfTooLarge(String text, int place) {
-        int start = place;
-        while (start > 0 && isDigit(text.charAt(start)) && isDigit(text.charAt(start - 1))) {
-            start--;
-        }
-        return text.charAt(start) == '0' ? place : start;
-    }
-
-    private static boolean isDigit(char c) {
-        return c >= '0' && c <= '9';
     }
 }
