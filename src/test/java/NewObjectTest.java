@@ -1,4 +1,5 @@
 import java.lang.reflect.Constructor;
+import java.lang.reflect.Field;
 import java.lang.reflect.Method;
 import java.lang.reflect.Modifier;
 import java.util.Set;
@@ -66,7 +67,12 @@ public final class NewObjectTest {
         Check.due(want, "the methods of the face", () -> face);
         Check.due(true, "public", () -> Modifier.isPublic(ZoneClock.class.getModifiers()));
         Check.due(true, "final", () -> Modifier.isFinal(ZoneClock.class.getModifiers()));
-        Check.due(0, "fields of the face", () -> ZoneClock.class.getFields().length);
+        for (Field field : ZoneClock.class.getDeclaredFields()) {
+            Check.due(true, field.getName() + " is private", () -> Modifier.isPrivate(field.getModifiers()));
+        }
+        for (Class<?> inside : ZoneClock.class.getDeclaredClasses()) {
+            Check.due(false, inside + " is public", () -> Modifier.isPublic(inside.getModifiers()));
+        }
         Constructor<?>[] made = ZoneClock.class.getDeclaredConstructors();
         Check.due("public ZoneClock()", "the constructor", () -> made[0].toGenericString());
         Check.due(1, "constructors", () -> made.length);
